@@ -87,7 +87,6 @@ public final class TubeWatch {
     }
 
     public boolean failDoor(int segment, boolean fails) throws IndexOutOfBoundsException {
-        requireSegment(segment);
         requireDoor(segment);
         doors.setFailing(segment, fails);
         return doors.isOpen(segment);
@@ -305,7 +304,7 @@ public final class TubeWatch {
 
     private void requireDoor(int segment) {
         if (!doors.isThere(segment)) {
-            throw new IndexOutOfBoundsException("there is no door in the segment");
+            throw new IndexOutOfBoundsException("there is no such segment or no door in it");
         }
     }
 
@@ -429,7 +428,7 @@ public final class TubeWatch {
     private static final class Blaze {
         private int site = NONE;
         private int size = 0;
-        // The square of an int age would not fit an int after many steps.
+        // Its square does not fit an int behind some 46,000 steps.
         private long age = 0;
         private int water = 30;
         private boolean isFoamOn = false;
@@ -442,7 +441,6 @@ public final class TubeWatch {
         void begin(int place, int most) {
             site = place;
             size = most;
-            age = 0;
         }
 
         void turnFoamOn() {
@@ -645,10 +643,11 @@ public final class TubeWatch {
             if (!isAct(next)) {
                 return NONE;
             }
+            int kind = kinds[next];
             steps[next] = now;
             since = now;
             next++;
-            return kinds[next - 1];
+            return kind;
         }
 
         int stepOf(int index) {

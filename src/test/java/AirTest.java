@@ -189,6 +189,8 @@ public final class AirTest {
         Check.due("a flow of 30.0", right.flow(), 3000);
         Check.due("no smoke backs at 30.0", right.segment(4, 0), 0);
         Check.due("smoke of the fire", right.segment(5, 0), 10);
+        right.step(6);
+        Check.due("smoke of the fire then", right.segment(5, 0), 52);
         TubeWatch left = atThirty(-1, 10);
         Check.due("a flow of -30.0", left.flow(), -3000);
         Check.due("no smoke backs at -30.0", left.segment(6, 0), 0);
@@ -222,6 +224,13 @@ public final class AirTest {
         hot.step(1);
         Check.due("heat 20 tells", hot.segment(6, 2), 2);
         Check.due("two give the alarm", hot.alarm(), 6);
+        TubeWatch warm = Scene.calmFire(6, 8);
+        warm.step(11);
+        Check.due("heat of 19", warm.segment(6, 1), 19);
+        Check.due("heat 19 does not tell, smoke does", warm.segment(6, 2), 1);
+        warm.step(1);
+        Check.due("heat of 20", warm.segment(6, 1), 20);
+        Check.due("heat 20 gives the alarm", warm.alarm(), 6);
         TubeWatch slow = Scene.calmFire(6, 2);
         slow.step(11);
         Check.due("smoke 14 does not tell", slow.segment(6, 2), 0);

@@ -7,7 +7,9 @@ public final class AskTest {
         doneRefuses();
         goneCountsAllSmoke();
         balancesEver();
+        aWholeLifeBalances();
         refusedCallsChangeNothing();
+        farNumbersAreRefused();
         Check.end();
     }
 
@@ -88,6 +90,58 @@ public final class AskTest {
             Check.due("balances behind " + i, x.balances(), true);
         }
         Check.due("smoke went out", x.gone() > 0, true);
+    }
+
+    /** As many steps as the calls of one object allow, and the most smoke, then a storm. */
+    private static void aWholeLifeBalances() {
+        TubeWatch x = Scene.calmFire(6, 200);
+        int made = 0;
+        for (int age = 0; age < 49000; age++) {
+            made += Math.min(200, age < 100 ? 1 + age * age / 4 : 200);
+        }
+        for (int i = 0; i < 490; i++) {
+            x.step(100);
+        }
+        Check.due("all smoke of 49000 steps", Scene.allSmoke(x), made);
+        Check.due("no smoke is gone", x.gone(), 0);
+        x.wind(40);
+        for (int i = 0; i < 3; i++) {
+            x.command(i, 1);
+        }
+        x.step(100);
+        Check.due("a storm clears the tube", Scene.allSmoke(x) - x.gone() < 3000, true);
+        Check.due("all smoke of 49100 steps", Scene.allSmoke(x), made + 20000);
+        Check.due("balances at last", x.balances(), true);
+    }
+
+    private static void farNumbersAreRefused() {
+        TubeWatch x = mixed();
+        for (int far : new int[] {Integer.MIN_VALUE, Integer.MIN_VALUE + 1, -2, 4096, Integer.MAX_VALUE}) {
+            Check.noIndex("build " + far, () -> x.build(0, far));
+            Check.noArgument("build " + far, () -> x.build(far, 0));
+            Check.noIndex("people " + far, () -> x.people(far, 1));
+            Check.noArgument("people " + far, () -> x.people(0, far));
+            Check.noArgument("wind " + far, () -> x.wind(far == -2 ? -41 : far));
+            Check.noIndex("fire " + far, () -> x.fire(far, 1));
+            Check.noArgument("fire " + far, () -> x.fire(0, far));
+            Check.noIndex("feed " + far, () -> x.feed(far, true));
+            Check.noIndex("failFan " + far, () -> x.failFan(far, true));
+            Check.noIndex("failDoor " + far, () -> x.failDoor(far, true));
+            Check.noIndex("failDetector " + far, () -> x.failDetector(far, 0, true));
+            Check.noIndex("failDetector " + far, () -> x.failDetector(0, far, true));
+            Check.noArgument("act " + far, () -> x.act(far, 0, true));
+            Check.noArgument("act " + far, () -> x.act(0, far, true));
+            Check.noIndex("command " + far, () -> x.command(far, 0));
+            Check.noArgument("command " + far, () -> x.command(0, far));
+            Check.noArgument("step " + far, () -> x.step(far));
+            Check.noIndex("segment " + far, () -> x.segment(far, 0));
+            Check.noArgument("segment " + far, () -> x.segment(0, far));
+            Check.noIndex("fan " + far, () -> x.fan(far));
+            Check.noIndex("done " + far, () -> x.done(far));
+            Check.noIndex("person " + far, () -> x.person(far, 0));
+            Check.noArgument("person " + far, () -> x.person(0, far));
+            Check.noArgument("count " + far, () -> x.count(far));
+        }
     }
 
     private static void refusedCallsChangeNothing() {

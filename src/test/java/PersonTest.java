@@ -114,6 +114,10 @@ public final class PersonTest {
         walksTo(1 << 8, 3, 2);
         walksTo(1 << 4, 8, 7);
         walksTo(1 << 3, 8, 9);
+        walksTo(1 << 0, 6, 5);
+        walksTo(1 << 11, 5, 6);
+        walksTo(1 << 11, 4, 3);
+        walksTo(1 << 11, 6, 7);
         walksTo(1 << 1, 0, 1);
         walksTo(1 << 2, 0, TubeWatch.NONE);
     }
