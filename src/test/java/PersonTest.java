@@ -17,8 +17,6 @@ public final class PersonTest {
         ninetyNineDoesNotHurt();
         oneWhoWalksIntoSmokeIsHurtLater();
         countTellsStates();
-        personRefuses();
-        countRefuses();
         Check.end();
     }
 
@@ -305,22 +303,5 @@ public final class PersonTest {
         for (int state = 0; state < due.length; state++) {
             Check.due("count(" + state + ")", x.count(state), due[state]);
         }
-    }
-
-    private static void personRefuses() {
-        TubeWatch x = new TubeWatch();
-        x.people(4, 2);
-        Check.noIndex("person(-1, 0)", () -> x.person(-1, 0));
-        Check.noIndex("person(2, 0)", () -> x.person(2, 0));
-        Check.noIndex("person(2, 3)", () -> x.person(2, 3));
-        Check.noIndex("person(30, 0)", () -> x.person(30, 0));
-        Check.noArgument("person(1, 3)", () -> x.person(1, 3));
-        Check.noArgument("person(0, -1)", () -> x.person(0, -1));
-    }
-
-    private static void countRefuses() {
-        TubeWatch x = new TubeWatch();
-        Check.noArgument("count(-1)", () -> x.count(-1));
-        Check.noArgument("count(5)", () -> x.count(5));
     }
 }

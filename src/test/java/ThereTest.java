@@ -6,13 +6,9 @@ public final class ThereTest {
         buildPlacesDoors();
         buildMakesDoorsNew();
         buildPlacesDamper();
-        buildRefuses();
         peopleSit();
-        peopleRefuses();
         windAnswersWhatItWas();
-        windRefuses();
         fireBegins();
-        fireRefuses();
         Check.end();
     }
 
@@ -97,24 +93,6 @@ public final class ThereTest {
         }
     }
 
-    private static void buildRefuses() {
-        TubeWatch x = new TubeWatch();
-        x.build(5, 3);
-        Check.noIndex("build(0, -1)", () -> x.build(0, -1));
-        Check.noIndex("build(0, 12)", () -> x.build(0, 12));
-        Check.noIndex("build(0, MIN)", () -> x.build(0, Integer.MIN_VALUE));
-        Check.noArgument("build(-1, 0)", () -> x.build(-1, 0));
-        Check.noArgument("build(4096, 11)", () -> x.build(4096, 11));
-        Check.noIndex("build(4096, 12)", () -> x.build(4096, 12));
-        Check.due("a refused build changes nothing", x.segment(2, 4), 0);
-        Check.due("a refused build adds nothing", x.segment(1, 4), TubeWatch.NONE);
-        x.step(1);
-        Check.noState("build(0, 0) behind a step", () -> x.build(0, 0));
-        Check.noIndex("build(0, 12) behind a step", () -> x.build(0, 12));
-        Check.noArgument("build(4096, 0) behind a step", () -> x.build(4096, 0));
-        Check.due("a late build changes nothing", x.segment(2, 4), 0);
-    }
-
     // ---- promise 3
 
     private static void peopleSit() {
@@ -133,23 +111,6 @@ public final class ThereTest {
         Check.due("whole crowd at once", new TubeWatch().people(5, 30), 30);
     }
 
-    private static void peopleRefuses() {
-        TubeWatch x = new TubeWatch();
-        Check.noIndex("people(-1, 1)", () -> x.people(-1, 1));
-        Check.noIndex("people(12, 0)", () -> x.people(12, 0));
-        Check.noArgument("people(0, 0)", () -> x.people(0, 0));
-        Check.noArgument("people(0, 31)", () -> x.people(0, 31));
-        Check.noArgument("people(0, MIN)", () -> x.people(0, Integer.MIN_VALUE));
-        x.people(0, 29);
-        Check.noState("people(1, 2) with 29", () -> x.people(1, 2));
-        Check.noArgument("people(1, 31) with 29", () -> x.people(1, 31));
-        Check.noIndex("people(12, 2) with 29", () -> x.people(12, 2));
-        Check.due("refused persons are not there", x.segment(1, 3), 0);
-        Check.due("the last one has room", x.people(1, 1), 30);
-        Check.noState("people(1, 1) with 30", () -> x.people(1, 1));
-        Check.noState("people(1, 30) with 30", () -> x.people(1, 30));
-    }
-
     // ---- promise 4
 
     private static void windAnswersWhatItWas() {
@@ -162,15 +123,6 @@ public final class ThereTest {
         Check.due("wind(40) behind a step", x.wind(40), -40);
         x.step(1);
         Check.due("flow of a wind to the right", x.flow(), 468);
-    }
-
-    private static void windRefuses() {
-        TubeWatch x = new TubeWatch();
-        x.wind(7);
-        Check.noArgument("wind(41)", () -> x.wind(41));
-        Check.noArgument("wind(-41)", () -> x.wind(-41));
-        Check.noArgument("wind(MIN)", () -> x.wind(Integer.MIN_VALUE));
-        Check.due("a refused wind does not blow", x.wind(0), 7);
     }
 
     // ---- promise 5
@@ -193,23 +145,5 @@ public final class ThereTest {
         TubeWatch x = Scene.calmFire(4, size);
         x.step(4);
         return x.segment(4, 0);
-    }
-
-    private static void fireRefuses() {
-        TubeWatch x = Scene.calm();
-        Check.noIndex("fire(-1, 1)", () -> x.fire(-1, 1));
-        Check.noIndex("fire(12, 0)", () -> x.fire(12, 0));
-        Check.noArgument("fire(0, 0)", () -> x.fire(0, 0));
-        Check.noArgument("fire(0, 201)", () -> x.fire(0, 201));
-        Check.noArgument("fire(0, -1)", () -> x.fire(0, -1));
-        x.step(4);
-        Check.due("a refused fire does not burn", Scene.allSmoke(x), 0);
-        x.fire(0, 1);
-        Check.noState("fire(0, 1) again", () -> x.fire(0, 1));
-        Check.noState("fire(1, 200) again", () -> x.fire(1, 200));
-        Check.noArgument("fire(1, 201) again", () -> x.fire(1, 201));
-        Check.noIndex("fire(12, 1) again", () -> x.fire(12, 1));
-        x.step(4);
-        Check.due("a second fire changes nothing", Scene.allSmoke(x), 4);
     }
 }
