@@ -52,8 +52,7 @@ final class Twin {
         if (later > 0) {
             put(text, () -> x.step(later));
         }
-        tell(text, x);
-        return text.toString();
+        return text.append(answers(x)).toString();
     }
 
     /** What no question tells is seen by what further calls answer. */
@@ -87,7 +86,9 @@ final class Twin {
         return 0;
     }
 
-    private static void tell(StringBuilder text, TubeWatch x) {
+    /** All that can be asked, by some 180 calls. */
+    static String answers(TubeWatch x) {
+        StringBuilder text = new StringBuilder();
         for (int i = 0; i < 12; i++) {
             for (int what = 0; what < 5; what++) {
                 text.append(x.segment(i, what)).append(' ');
@@ -112,6 +113,7 @@ final class Twin {
         }
         text.append(x.flow()).append(' ').append(x.alarm()).append(' ');
         text.append(x.gone()).append(' ').append(x.balances());
+        return text.toString();
     }
 
     private static void put(StringBuilder text, Ask ask) {
